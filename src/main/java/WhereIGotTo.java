@@ -105,7 +105,7 @@ public final class WhereIGotTo {
             case 3:
                 return now.beginsAt(page) ? 1 : 0;
             case 4:
-                return now.surenessOf(1, page);
+                return now.tenthsAt(1, page);
             default:
                 return refuse(OTHER);
         }
@@ -159,7 +159,7 @@ public final class WhereIGotTo {
         if (!now.has(page) || !now.has(last)) {
             return refuse(NOBODY);
         }
-        return now.surenessOf(page, last);
+        return now.tenthsAt(page, last);
     }
 
     public int look(int page, int said) {
@@ -207,7 +207,7 @@ public final class WhereIGotTo {
             case 1:
                 return inLeastTerms(parts.between(page, now.pages - 1), parts.total(), part);
             default:
-                return inLeastTerms(knownTenths(page), TENTHS * parts.total(), part);
+                return inLeastTerms(wouldOf(page), TENTHS * parts.total(), part);
         }
     }
 
@@ -522,10 +522,10 @@ public final class WhereIGotTo {
     }
 
     /** WOULD of a PAGE, times ten and all PARTS. */
-    private long knownTenths(int page) {
+    private long wouldOf(int page) {
         long sum = 0;
         for (int last = 0; last < now.pages; last++) {
-            sum += parts.of[last] * now.surenessOf(page, last);
+            sum += parts.of[last] * now.tenthsAt(page, last);
         }
         return sum;
     }
@@ -541,7 +541,7 @@ public final class WhereIGotTo {
     }
 
     private long likelierWord(int page) {
-        long known = knownTenths(page);
+        long known = wouldOf(page);
         return Math.max(known, TENTHS * parts.total() - known);
     }
 
@@ -592,32 +592,25 @@ public final class WhereIGotTo {
     }
 
     /** TENTHS in which one of a KIND with a FIGURE, who was on LAST, says of a PAGE that he knows it. */
-    private static int surenessOf(int kind, int figure, int page, int last) {
+    private static int tenthsOf(int kind, int figure, int page, int last) {
+        boolean reached = page <= last;
         if (kind == CHILD) {
             return TENTHS;
         }
-        if (kind == SLEEPY && page <= last && page >= last - 2) {
+        if (kind == KNOWER) {
+            return reached ? TENTHS : 0;
+        }
+        if (kind == SLEEPY && reached && page >= last - 2) {
             return TENTHS / 2;
         }
-        int error = errorOf(kind, figure, page, last);
-        return page <= last ? TENTHS - error : error;
-    }
-
-    /** E: how far one of a KIND is from what a KNOWER would say. */
-    private static int errorOf(int kind, int figure, int page, int last) {
-        int distance = page <= last ? last - page : page - last - 1;
+        int distance = reached ? last - page : page - last - 1;
         int error = Math.min(MOST_ERROR, Math.max(0, figure - distance));
-        switch (kind) {
-            case KNOWER:
-                return 0;
-            case FRESH:
-            case SLEEPY:
-                return error / 2;
-            case VAGUE:
-                return error + 1;
-            default:
-                return error;
+        if (kind == FRESH || kind == SLEEPY) {
+            error /= 2;
+        } else if (kind == VAGUE) {
+            error++;
         }
+        return reached ? TENTHS - error : error;
     }
 
     /** All that there is, but THE IMAGE, letters, the ROW and REFUSALS. Each change is refused with false. */
@@ -746,23 +739,19 @@ public final class WhereIGotTo {
             return sum;
         }
 
-        private int surenessOf(int page, int last) {
-            return WhereIGotTo.surenessOf(kind, figure, page, last);
-        }
-
-        /** TENTHS of what was said, by one of a KIND with the FIGURE as it is. */
-        private int tenthsOfWord(int aKind, int page, int said, int last) {
-            int known = WhereIGotTo.surenessOf(aKind, figure, page, last);
-            return said == 1 ? known : TENTHS - known;
+        private int tenthsAt(int page, int last) {
+            return tenthsOf(kind, figure, page, last);
         }
 
         /** The PART of LAST by one of a KIND, as if one LOOK were not (NONE: all are). */
         private long partOf(int aKind, int last, int without) {
             long part = chance[last];
             for (int look = 0; look < looks; look++) {
-                if (look != without) {
-                    part *= tenthsOfWord(aKind, lookPage[look], lookSaid[look], last);
+                if (look == without) {
+                    continue;
                 }
+                int known = tenthsOf(aKind, figure, lookPage[look], last);
+                part *= lookSaid[look] == 1 ? known : TENTHS - known;
             }
             return part;
         }
@@ -778,9 +767,10 @@ public final class WhereIGotTo {
 
         /** PAGES (bits) from which one would never say such a word of a PAGE. */
         private int pagesAgainst(int page, int said) {
+            int never = said == 1 ? 0 : TENTHS;
             int bits = 0;
             for (int last = 0; last < pages; last++) {
-                if (tenthsOfWord(kind, page, said, last) == 0) {
+                if (tenthsAt(page, last) == never) {
                     bits |= 1 << last;
                 }
             }
