@@ -406,6 +406,13 @@ final class PromisesTest {
         due.is("14 what", x.best(4), -2);
         due.is("14 what", x.best(-1), -2);
         due.is("14 refusals", x.count(12), 2);
+        WhereIGotTo eight = new WhereIGotTo();
+        due.is("14 from the first", eight.best(1), 0);
+        due.is("14 to the last", eight.best(2), 7);
+        due.is("14 to the first, too", told("l010;").best(2), 0);
+        WhereIGotTo fewer = told("n24;c239;n3;");
+        due.is("14 pages that are no more", fewer.best(2), 2);
+        due.is("14 split without them", fewer.best(3), 1);
         WhereIGotTo three = told("n3;");
         due.is("14 split, of several the least", three.best(3), 1);
         WhereIGotTo unsure = told("n3;k12;l011;");
@@ -536,6 +543,8 @@ final class PromisesTest {
         // A bold one looks at 6, 5, 4, 3, 2, 1.
         readerIs(x, 4, 0, 6, 10);
         readerIs(x, 4, 7, 2, 0);
+        WhereIGotTo shy = told("n6;s031;");
+        readerIs(shy, 3, 5, 3, 0);
         WhereIGotTo heavy = told("n4;c039;");
         readerIs(heavy, 1, 3, 1, 0);
         readerIs(heavy, 1, 0, 3, 0);
