@@ -874,11 +874,16 @@ public final class WhereIGotTo {
                 return NONE;
             }
             for (int page = 1; page <= high; page++) {
-                if (ifFirst(goal, 0, page, high) == least) {
+                if (canPart(0, page, high) && ifFirst(goal, 0, page, high) == least) {
                     return page;
                 }
             }
             return NONE;
+        }
+
+        /** Whether a LOOK tells anything: one that doesn't could be free, and would then be as good as none. */
+        private boolean canPart(int low, int page, int high) {
+            return parts.someBetween(low, page - 1) > 0 && parts.someBetween(page, high) > 0;
         }
 
         private static int cell(int low, int high) {
@@ -889,14 +894,17 @@ public final class WhereIGotTo {
             if (parts.someBetween(low, high) <= 1) {
                 return 0;
             }
-            long least = ifFirst(goal, low, low + 1, high);
-            for (int page = low + 2; page <= high; page++) {
-                least = Math.min(least, ifFirst(goal, low, page, high));
+            long least = NONE;
+            for (int page = low + 1; page <= high; page++) {
+                if (canPart(low, page, high)) {
+                    long here = ifFirst(goal, low, page, high);
+                    least = least == NONE ? here : Math.min(least, here);
+                }
             }
             return least;
         }
 
-        /** What it comes to, if of the PAGES from low to high one is looked at first, and then the best is done. */
+        /** What it comes to, if of the PAGES from low to high one that parts is looked at first, then the best is done. */
         private long ifFirst(int goal, int low, int page, int high) {
             long ifNot = table[cell(low, page - 1)];
             long ifKnown = table[cell(page, high)];
@@ -908,9 +916,7 @@ public final class WhereIGotTo {
                 case FEWEST_AT_WORST:
                     return 1 + Math.max(ifNot, ifKnown);
                 default:
-                    // Where LAST can't be below the PAGE, its SECRET can't be given away.
-                    boolean canBeNot = parts.someBetween(low, page - 1) > 0;
-                    return canBeNot ? Math.max(book.secret[page] + ifNot, ifKnown) : ifKnown;
+                    return Math.max(book.secret[page] + ifNot, ifKnown);
             }
         }
     }

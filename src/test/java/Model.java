@@ -433,7 +433,7 @@ final class Model {
         return bits(astray);
     }
 
-    // the best ways, over the pages of MAY alone: a look that leaves them all as they are never makes a way better
+    // the best ways, over the pages of MAY alone: a look that parts none of them from another is no look to be thought of
 
     static List<Integer> below(List<Integer> pages, int p) {
         List<Integer> below = new ArrayList<>(pages);
@@ -452,8 +452,8 @@ final class Model {
         List<Integer> no = below(may, p);
         List<Integer> yes = from(may, p);
         BigInteger secret = big(state.secret[p]);
-        BigInteger ifNo = no.isEmpty() ? BigInteger.ZERO : least(goal, no, known);
-        BigInteger ifYes = yes.isEmpty() ? BigInteger.ZERO : least(goal, yes, known);
+        BigInteger ifNo = least(goal, no, known);
+        BigInteger ifYes = least(goal, yes, known);
         if (goal == 0) {
             return sum(may).add(ifNo).add(ifYes);
         } else if (goal == 1) {
@@ -461,7 +461,7 @@ final class Model {
         } else if (goal == 2) {
             return ifNo.max(ifYes).add(BigInteger.ONE);
         }
-        return no.isEmpty() ? ifYes : secret.add(ifNo).max(ifYes);
+        return secret.add(ifNo).max(ifYes);
     }
 
     BigInteger least(int goal, List<Integer> may, TreeMap<Integer, BigInteger> known) {
@@ -505,7 +505,7 @@ final class Model {
         }
         TreeMap<Integer, BigInteger> known = new TreeMap<>();
         BigInteger least = least(what, may, known);
-        int p = 1;
+        int p = may.get(0) + 1;
         while (!ifLooked(what, may, p, known).equals(least)) {
             p++;
         }

@@ -488,7 +488,7 @@ final class PromisesTest {
         due.is("18 first behind what can't be", told("n8;l051;").first(0), 6);
         due.is("18 safe", told("n3;s011;s025;").first(1), 1);
         due.is("18 safe, where less is given away", told("n4;c010;s013;s021;").first(1), 2);
-        due.is("18 safe, where nothing can be given away", told("n8;s011;l051;").first(1), 1);
+        safeParts();
         WhereIGotTo sure = told("l031;l040;");
         due.is("18 none needs to be", sure.first(0), -9);
         due.is("18 none needs to be", sure.first(1), -9);
@@ -496,6 +496,21 @@ final class PromisesTest {
         due.is("18 what", x.first(-1), -2);
         due.is("18 refusals", x.count(12), 2);
         due.is("18 no refusals", sure.count(12), 0);
+    }
+
+    /** Where nothing is below a page that may be the last, or nothing from it on, a look there is none. */
+    private static void safeParts() {
+        due.is("18 safe, nothing below the first", told("l011;").first(1), 2);
+        due.is("18 safe, nothing below several", told("n8;s011;l051;").first(1), 6);
+        due.is("18 safe, no chances at the front", told("n5;c000;c010;").first(1), 3);
+        due.is("18 safe, its own secret counts not below itself", told("n5;s029;l021;").first(1), 3);
+        due.is("18 safe, two pages alone", told("n5;s049;l031;").first(1), 4);
+        // Of pages 3 to 5: 4 first gives away 2 and then 1 (of three); 5 first 1 twice, and then 2.
+        due.is("18 safe, behind a front that can't be", told("n6;s042;s051;l031;").first(1), 4);
+        due.is("18 safe, in a gap", told("n6;c010;c020;c030;s011;s024;s041;s051;").first(1), 3);
+        due.is("18 safe, in a gap behind such a front", told("n6;c000;c020;c030;s024;s032;s044;").first(1), 3);
+        due.is("18 safe, nothing from the last on", told("n6;s019;l020;").first(1), 1);
+        due.is("18 first, nothing below the first", told("l011;").first(0), 4);
     }
 
     private static void dear() {
