@@ -16,6 +16,14 @@ final class Due {
         }
     }
 
+    void isText(String call, String got, String want) {
+        asked++;
+        if (!got.equals(want)) {
+            wrong++;
+            System.out.println(test + ": " + call + ": is [" + got + "], due is [" + want + "]");
+        }
+    }
+
     /** Above and below the line of a fraction that was asked for in two calls. */
     void isFraction(String call, long above, long below, long wantAbove, long wantBelow) {
         is(call + " above", above, wantAbove);

@@ -69,6 +69,8 @@ final class LanguageTest {
         for (Class<?> one : classes) {
             boolean outer = one == WhereIGotTo.class;
             due.is(one + " static", outer || Modifier.isStatic(one.getModifiers()) ? 1 : 0, 1);
+            long fields = Arrays.stream(one.getDeclaredFields()).filter(f -> !Modifier.isStatic(f.getModifiers())).count();
+            due.is("some twenty fields of " + one, fields <= 20 ? 1 : 0, 1);
             for (Field field : one.getDeclaredFields()) {
                 due.is(field + " private", Modifier.isPrivate(field.getModifiers()) ? 1 : 0, 1);
                 boolean free = !Modifier.isStatic(field.getModifiers()) || Modifier.isFinal(field.getModifiers());

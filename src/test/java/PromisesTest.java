@@ -49,23 +49,12 @@ final class PromisesTest {
         due.end();
     }
 
-    private static void feed(WhereIGotTo x, String letters) {
-        for (int i = 0; i < letters.length(); i++) {
-            x.feed(letters.charAt(i));
-        }
-    }
-
     private static int tell(WhereIGotTo x, String letters) {
-        feed(x, letters);
-        return x.book();
+        return Told.tell(x, letters);
     }
 
     private static WhereIGotTo told(String letters) {
-        WhereIGotTo x = new WhereIGotTo();
-        if (tell(x, letters) <= 0) {
-            throw new IllegalStateException("no book: " + letters);
-        }
-        return x;
+        return Told.book(letters);
     }
 
     private static void newObject() {
@@ -817,7 +806,7 @@ final class PromisesTest {
 
     private static void count() {
         WhereIGotTo x = told("n7;c019;s025;s034;h03;h05;k27;l011;l060;");
-        feed(x, "n5");
+        Told.feed(x, "n5");
         x.row(7);
         int[] counts = {7, 2, 15, 3, 9, 7, 2, 1, 2, 7};
         for (int what = 0; what < counts.length; what++) {
